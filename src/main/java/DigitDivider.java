@@ -160,7 +160,7 @@ public final class DigitDivider {
     }
 
     public long state(int j, int what) {
-        if (j < 0 || j >= latest.states) {
+        if (j < 0 || j > latest.n) {
             return 0;
         }
         switch (what) {
@@ -284,7 +284,10 @@ public final class DigitDivider {
         return notAbove && notBelow;
     }
 
-    /** One division, with all that can be asked about it; its rows are used again. */
+    /**
+     * One division, with all that can be asked about it; its rows are used again. Before the first
+     * one all is 0, R too: it is -1 only once something is divided.
+     */
     private static final class Division {
         // A size of 2^31 by 1 takes the most: (31 + 3) / 2.
         private static final int MOST_DIGITS = 17;
@@ -296,8 +299,6 @@ public final class DigitDivider {
         private final long[] carries = new long[MOST_DIGITS + 1];
         private final long[] qs = new long[MOST_DIGITS + 1];
         private final long[] rs = new long[MOST_DIGITS + 1];
-        // How many of the rows' states count: n + 1, but none before the first division.
-        private int states = 0;
         private int row = 0;
         private int s = 0;
         private int t = 0;
@@ -313,6 +314,7 @@ public final class DigitDivider {
             long m = Math.abs((long) b);
             clear();
             if (p < m) {
+                quotient = 0;
                 rest = a;
                 return;
             }
@@ -328,15 +330,12 @@ public final class DigitDivider {
             carries[0] = 0;
             qs[0] = 0;
             rs[0] = -1;
-            states = 1;
             row = 0;
             s = 0;
             t = 0;
             n = 0;
             digitsNotZero = 0;
             firstLeft = 0;
-            quotient = 0;
-            rest = 0;
         }
 
         /** Puts p and m in their places; answers d. */
@@ -346,7 +345,6 @@ public final class DigitDivider {
             int u = t - s;
             int h = u % 2 == 0 ? 2 : 3;
             n = Math.min((u + h) / 2, MOST_DIGITS);
-            states = n + 1;
             long d = m << t;
             row = (int) (d >> 27) & (ROWS - 1);
             sums[0] = (p << s) * 8 >> h;

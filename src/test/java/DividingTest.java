@@ -260,6 +260,10 @@ public final class DividingTest {
         A.due("sweep(-3, 5, 2)", x.sweep(-3, 5, 2), 2);
         A.due("sweep(2, 1, 2)", x.sweep(2, 1, 2), 1);
         A.due("sweep(2, 300, 2)", x.sweep(2, 300, 2), 300);
+        // 2^31 by 1: the remainder has gone round to 0, so the rest is right, the quotient 0 not.
+        A.due("sweep(MIN, 1, 1)", x.sweep(MIN, 1, 1), 1);
+        x.divide(MIN, 1);
+        A.due("rest() of MIN, 1", x.rest(), 0);
         // Going round: MAX - 1, MAX, MIN and MIN + 1, of which MIN alone is not less than 2^31.
         A.due("sweep(MAX - 1, 4, MIN)", x.sweep(MAX - 1, 4, MIN), 1);
         for (int no : new int[] {0, -1, 301, MIN, MAX}) {

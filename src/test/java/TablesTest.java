@@ -111,7 +111,9 @@ public final class TablesTest {
         A.due("digit(3, 7, 7) copied", x.digit(3, 7, 7), Model.made(7, 7));
         x.set(3, 0, 12, -1);
         A.due("digit(0, 0, 12) is its own", x.digit(0, 0, 12), 1);
-        A.due("copy(1, 0)", x.copy(1, 0), 2);
+        x.set(0, 0, -64, 2);
+        A.due("copy(1, 0)", x.copy(1, 0), 3);
+        A.due("make(0) after a made one was copied", x.make(0), 0);
         for (int no : NO_TABLE) {
             A.due("copy of no table " + no, x.copy(no, 0), -1);
             A.due("copy to no table " + no, x.copy(0, no), -1);
