@@ -46,6 +46,7 @@ public final class FaceTest {
     }
 
     private static void face() {
+        A.says("The public face");
         Class<?> c = DigitDivider.class;
         Set<String> seen = new TreeSet<>();
         Stream.of(c.getDeclaredConstructors(), c.getDeclaredFields(), c.getDeclaredMethods())
@@ -64,6 +65,7 @@ public final class FaceTest {
     }
 
     private static void names() {
+        A.says("LANGUAGE 1: No private method bears the name of a public one.");
         Set<String> face = new TreeSet<>();
         Arrays.stream(DigitDivider.class.getMethods())
             .filter(method -> method.getDeclaringClass() == DigitDivider.class)
@@ -75,6 +77,7 @@ public final class FaceTest {
     }
 
     private static void words() throws IOException {
+        A.says("LANGUAGE 2, 4, 6: words that are left out");
         String text = Files.readString(Path.of("src/main/java/DigitDivider.java"))
             .replaceAll("(?s)/\\*.*?\\*/", " ")
             .replaceAll("//[^\n]*", " ");

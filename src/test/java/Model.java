@@ -1,22 +1,34 @@
 import java.math.BigInteger;
+import java.util.ArrayList;
+import java.util.List;
 
 /**
  * The document once more, told as differently from the program as may be: GOOD by the corners of
  * a cell, the division in whole numbers of any size that are cut to 64 bits, bit by bit.
  */
 final class Model {
-    static final int DIGITS_AT_MOST = 17;
+    private static final boolean[][][] GOOD = new boolean[16][128][5];
 
-    final int[][][] tables = new int[4][16][128];
-    int inUse = 0;
+    static {
+        for (int i = 0; i < 16; i++) {
+            for (int e = -64; e < 64; e++) {
+                for (int k = -2; k <= 2; k++) {
+                    GOOD[i][e + 64][k + 2] = !isHeld(i, e) || staysNear(i, e, k);
+                }
+            }
+        }
+    }
 
-    // the latest division
-    int row, s, t, n, notZero, left, quotient, rest;
-    final int[] digits = new int[DIGITS_AT_MOST + 1];
-    final int[] estimates = new int[DIGITS_AT_MOST + 1];
-    final long[] sums = new long[DIGITS_AT_MOST + 1];
-    final long[] carries = new long[DIGITS_AT_MOST + 1];
-    final long[] qs = new long[DIGITS_AT_MOST + 1];
+    private final int[][][] tables = new int[4][16][128];
+    private int inUse = 0;
+    private Division latest = new Division();
+
+    /** What is known of a division; of none at all it has no states. */
+    private static final class Division {
+        int row, s, t, n, notZero, left, quotient, rest;
+        final List<int[]> steps = new ArrayList<>();
+        final List<long[]> states = new ArrayList<>();
+    }
 
     Model() {
         for (int table = 0; table < 4; table++) {
@@ -24,31 +36,92 @@ final class Model {
         }
     }
 
+    // ---- 1 tables
+
+    int digit(int table, int i, int e) {
+        return in(table, 0, 3) && in(i, 0, 15) && in(e, -64, 63) ? tables[table][i][e + 64] : -101;
+    }
+
+    int set(int table, int i, int e, int digit) {
+        int before = digit(table, i, e);
+        if (before == -101 || !in(digit, -2, 2)) {
+            return -101;
+        }
+        tables[table][i][e + 64] = digit;
+        return before;
+    }
+
     int make(int table) {
         int changed = 0;
-        for (int i = 0; i < 16; i++) {
-            for (int e = -64; e < 64; e++) {
-                changed += set(table, i, e, made(i, e)) != made(i, e) ? 1 : 0;
-            }
+        for (int cell = 0; cell < 2048 && in(table, 0, 3); cell++) {
+            int i = cell / 128, e = cell % 128 - 64;
+            changed += set(table, i, e, made(i, e)) != made(i, e) ? 1 : 0;
+        }
+        return in(table, 0, 3) ? changed : -1;
+    }
+
+    int copy(int from, int to) {
+        if (!in(from, 0, 3) || !in(to, 0, 3)) {
+            return -1;
+        }
+        int changed = 0;
+        for (int cell = 0; cell < 2048; cell++) {
+            int i = cell / 128, e = cell % 128 - 64;
+            int digit = digit(from, i, e);
+            changed += set(to, i, e, digit) != digit ? 1 : 0;
         }
         return changed;
     }
 
-    int set(int table, int i, int e, int digit) {
-        int before = tables[table][i][e + 64];
-        tables[table][i][e + 64] = digit;
-        return before;
+    int good(int i, int e, int k) {
+        return in(i, 0, 15) && in(e, -64, 63) && in(k, -2, 2) ? isGood(i, e, k) ? 1 : 0 : -1;
+    }
+
+    int holds(int i, int e) {
+        return in(i, 0, 15) && in(e, -64, 63) ? isHeld(i, e) ? 1 : 0 : -1;
+    }
+
+    int check(int table) {
+        return in(table, 0, 3) ? wrongCells(table).size() : -1;
+    }
+
+    int wrong(int table, int k) {
+        if (!in(table, 0, 3) || k < 0) {
+            return -1;
+        }
+        List<Integer> cells = wrongCells(table);
+        return k < cells.size() ? cells.get(k) : -2;
+    }
+
+    private static boolean in(int number, int least, int most) {
+        return number >= least && number <= most;
+    }
+
+    private List<Integer> wrongCells(int table) {
+        List<Integer> cells = new ArrayList<>();
+        for (int i = 0; i < 16; i++) {
+            for (int e = -64; e < 64; e++) {
+                if (!isGood(i, e, tables[table][i][e + 64])) {
+                    cells.add(128 * i + e + 64);
+                }
+            }
+        }
+        return cells;
     }
 
     static int made(int i, int e) {
         int best = 3;
         for (int k = -2; k <= 2; k++) {
             boolean nearer = Math.abs(k) < Math.abs(best) || Math.abs(k) == Math.abs(best) && k > best;
-            if (good(i, e, k) && nearer) {
+            if (isGood(i, e, k) && nearer) {
                 best = k;
             }
         }
         return best == 3 ? 0 : best;
+    }
+
+    static boolean isGood(int i, int e, int k) {
+        return GOOD[i][e + 64][k + 2];
     }
 
     // Corners are in parts of 384, for d and for v: there all of them are whole.
@@ -74,7 +147,7 @@ final class Model {
     }
 
     /** A cell HOLDS a pair just if the middle of its corners is on none of its edges. */
-    static boolean holds(int i, int e) {
+    static boolean isHeld(int i, int e) {
         long[][] corners = corners(i, e);
         long d = 0, v = 0;
         for (long[] c : corners) {
@@ -86,35 +159,66 @@ final class Model {
             && v > many * 24 * e && v < many * 24 * (e + 2) && Math.abs(3 * v) < 8 * d;
     }
 
-    static boolean good(int i, int e, int k) {
-        if (holds(i, e)) {
-            for (long[] c : corners(i, e)) {
-                if (Math.abs(3 * (c[1] - k * c[0])) > 2 * c[0]) {
-                    return false;
-                }
+    private static boolean staysNear(int i, int e, int k) {
+        for (long[] c : corners(i, e)) {
+            if (Math.abs(3 * (c[1] - k * c[0])) > 2 * c[0]) {
+                return false;
             }
         }
         return true;
     }
 
-    int check(int table) {
-        int k = 0;
-        while (wrong(table, k) >= 0) {
-            k++;
-        }
-        return k;
+    // ---- 2 dividing
+
+    int use(int table) {
+        int before = inUse;
+        inUse = in(table, 0, 3) ? table : inUse;
+        return in(table, 0, 3) ? before : -1;
     }
 
-    int wrong(int table, int k) {
-        int before = 0;
-        for (int i = 0; i < 16; i++) {
-            for (int e = -64; e < 64; e++) {
-                if (!good(i, e, tables[table][i][e + 64]) && before++ == k) {
-                    return 128 * i + e + 64;
-                }
-            }
+    int divide(int a, int b) {
+        latest = b == 0 ? latest : divided(a, b);
+        return b == 0 ? -1 : latest.n;
+    }
+
+    int quotient() {
+        return latest.quotient;
+    }
+
+    int rest() {
+        return latest.rest;
+    }
+
+    int left() {
+        return latest.left;
+    }
+
+    int step(int j, int what) {
+        return in(j, 1, latest.n) && in(what, 0, 1) ? latest.steps.get(j - 1)[what] : -101;
+    }
+
+    long state(int j, int what) {
+        return in(j, 0, latest.states.size() - 1) && in(what, 0, 3) ? latest.states.get(j)[what] : 0;
+    }
+
+    int told(int what) {
+        int[] all = {latest.row, latest.s, latest.t, latest.n, latest.notZero};
+        return in(what, 0, 4) ? all[what] : -1;
+    }
+
+    int sweep(int low, int many, int b) {
+        if (!in(many, 1, 300) || b == 0) {
+            return -1;
         }
-        return -2;
+        int found = 0;
+        for (int offset = 0; offset < many; offset++) {
+            int a = big(low).add(big(offset)).intValue();
+            Division division = divided(a, b);
+            BigInteger[] due = big(a).divideAndRemainder(big(b));
+            boolean right = division.quotient == due[0].intValue() && division.rest == due[1].intValue();
+            found += right ? 0 : 1;
+        }
+        return found;
     }
 
     private static BigInteger big(long number) {
@@ -129,62 +233,63 @@ final class Model {
         return times;
     }
 
-    void divide(int a, int b) {
+    private Division divided(int a, int b) {
+        Division to = new Division();
         BigInteger p = big(a).abs();
         BigInteger m = big(b).abs();
-        row = s = t = n = notZero = left = quotient = 0;
-        rest = a;
-        sums[0] = carries[0] = qs[0] = 0;
+        to.rest = a;
+        to.states.add(new long[] {0, 0, 0, -1});
         if (p.compareTo(m) < 0) {
-            return;
+            return to;
         }
-        s = doublings(p);
-        t = doublings(m);
-        int u = t - s;
+        to.s = doublings(p);
+        to.t = doublings(m);
+        int u = to.t - to.s;
         int h = 2 + u % 2;
-        n = (u + h) / 2;
-        BigInteger d = m.shiftLeft(t);
-        row = d.divide(big(1L << 27)).mod(big(16)).intValueExact();
-        sums[0] = p.shiftLeft(s).multiply(big(8)).divide(big(1L << h)).longValueExact();
-        for (int j = 1; j <= n; j++) {
-            digit(j, d);
+        to.n = (u + h) / 2;
+        BigInteger d = m.shiftLeft(to.t);
+        to.row = d.divide(big(1L << 27)).mod(big(16)).intValueExact();
+        to.states.get(0)[0] = p.shiftLeft(to.s).multiply(big(8)).divide(big(1L << h)).longValueExact();
+        for (int j = 1; j <= to.n; j++) {
+            takeDigit(to, j, d);
         }
-        end(a, b, d);
+        end(to, a, b, d);
+        return to;
     }
 
-    private void digit(int j, BigInteger d) {
-        long sum = big(sums[j - 1]).multiply(big(4)).longValue();
-        long carry = big(carries[j - 1]).multiply(big(4)).longValue();
+    private void takeDigit(Division to, int j, BigInteger d) {
+        long[] before = to.states.get(j - 1);
+        long sum = big(before[0]).multiply(big(4)).longValue();
+        long carry = big(before[1]).multiply(big(4)).longValue();
         int e = big(Math.floorDiv(sum, 1L << 31)).add(big(Math.floorDiv(carry, 1L << 31))).intValue();
-        int k = tables[inUse][row][e < -64 ? 0 : e > 63 ? 127 : e + 64];
+        int k = tables[inUse][to.row][e < -64 ? 0 : e > 63 ? 127 : e + 64];
         long x = d.multiply(big(-8L * k)).longValue();
-        BigInteger newSum = BigInteger.ZERO, newCarry = BigInteger.ZERO;
+        long newSum = 0, newCarry = 0;
         for (int bit = 0; bit < 64; bit++) {
             long ones = (sum >>> bit & 1) + (carry >>> bit & 1) + (x >>> bit & 1);
-            newSum = newSum.add(big(ones % 2).shiftLeft(bit));
-            newCarry = newCarry.add(big(ones / 2).shiftLeft(bit + 1));
+            newSum += ones % 2 << bit;
+            newCarry += 2 * (ones / 2 << bit);
         }
-        sums[j] = newSum.longValue();
-        carries[j] = newCarry.longValue();
-        estimates[j] = e;
-        digits[j] = k;
-        qs[j] = 4 * qs[j - 1] + k;
-        notZero += k * k > 0 ? 1 : 0;
-        BigInteger size = big(newSum.add(newCarry).longValue()).abs();
-        if (left == 0 && size.multiply(big(3)).compareTo(d.multiply(big(16))) > 0) {
-            left = j;
+        long q = 4 * before[2] + k;
+        to.states.add(new long[] {newSum, newCarry, q, q - 1});
+        to.steps.add(new int[] {k, e});
+        to.notZero += k * k > 0 ? 1 : 0;
+        BigInteger size = big(big(newSum).add(big(newCarry)).longValue()).abs();
+        if (to.left == 0 && size.multiply(big(3)).compareTo(d.multiply(big(16))) > 0) {
+            to.left = j;
         }
     }
 
-    private void end(int a, int b, BigInteger d) {
-        BigInteger w = big(big(sums[n]).add(big(carries[n])).longValue());
-        BigInteger q = big(qs[n]);
+    private static void end(Division to, int a, int b, BigInteger d) {
+        long[] last = to.states.get(to.n);
+        BigInteger w = big(big(last[0]).add(big(last[1])).longValue());
+        BigInteger q = big(last[2]);
         if (w.signum() < 0) {
             w = w.add(d.multiply(big(8)));
             q = q.subtract(BigInteger.ONE);
         }
-        w = w.divide(big(8).shiftLeft(t));
-        quotient = (a < 0 ^ b < 0 ? q.negate() : q).intValue();
-        rest = (a < 0 ? w.negate() : w).intValue();
+        w = w.divide(big(8).shiftLeft(to.t));
+        to.quotient = (a < 0 ^ b < 0 ? q.negate() : q).intValue();
+        to.rest = (a < 0 ? w.negate() : w).intValue();
     }
 }
